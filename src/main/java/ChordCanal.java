@@ -581,7 +581,7 @@ public final class ChordCanal {
         }
 
         void become(Gates other) {
-            System.arraycopy(other.kinds, 0, kinds, 0, GATES);
+            System.arraycopy(other.kinds, 0, kinds, 0, Math.min(other.kinds.length, kinds.length));
             copy(other.passed, passed);
             copy(other.tunings, tunings);
             copy(other.wears, wears);

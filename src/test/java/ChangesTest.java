@@ -75,7 +75,6 @@ public final class ChangesTest {
         Check.same("second tuning", 11, canal.tune(2, 1, 0));
         Check.same("other string", 0, canal.tune(2, 0, 5));
         Check.same("other gate", 4, canal.note(3, 1));
-        Canals.wearGateFour(canal, 7, 0);
         canal.addBarge(7, 1, true);
         canal.advance(1);
         canal.tune(0, 0, 9);

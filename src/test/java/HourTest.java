@@ -37,7 +37,7 @@ public final class HourTest {
         Check.same("up leaves", 1, canal.advance(1));
         Check.same("sixth hour", "60|60|60|60|60|72", water(canal));
         Check.same("nothing is lost", 0, canal.lostTotal());
-        Check.same("wear", 2, canal.wear(2, 0) + canal.wear(2, 1) - canal.wear(0, 0));
+        Check.same("wear", "2 2 2", canal.wear(0, 0) + " " + canal.wear(2, 0) + " " + canal.wear(4, 1));
     }
 
     private static void waterIsLimited() {
