@@ -313,7 +313,7 @@ public final class BoundariesOfUndoTest {
         Canals.makeBusy(canal);
         canal.save();
         String due = View.of(canal);
-        for (int again = 0; again < 3; again++) {
+        for (int again = 0; again < 2; again++) {
             for (Check.Use change : CHANGES.subList(0, 8)) {
                 change.of(canal);
             }
