@@ -203,6 +203,20 @@ public final class BoundariesOfHoursTest {
         return text.toString();
     }
 
+    @Of("then the barges are considered in the order of their ids.")
+    static void promise9WithoutABargeNothingPassesGatesThatOpenToAnyNote() {
+        for (int note = 0; note <= 11; note++) {
+            ChordCanal canal = new ChordCanal();
+            for (int gate = 0; gate <= 4; gate++) {
+                canal.tune(gate, 0, (note + 4) % 12);
+                canal.tune(gate, 1, (note + 7) % 12);
+            }
+            canal.advance(1);
+            Check.same("opens to " + note, "true 62|60|60|60|60|60", canal.opensTo(0, note) + " "
+                    + Canals.picture(canal));
+        }
+    }
+
     @Of(ONE_A_GATE)
     static void promise9OneBargeAGateInTheSameDirection() {
         for (boolean down : new boolean[] {true, false}) {
