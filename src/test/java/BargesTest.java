@@ -108,10 +108,10 @@ public final class BargesTest {
     }
 
     private static void refused() {
-        ChordCanal canal = Canals.withBarges(2);
-        canal.removeBarge(0);
         Class<?> due = NoSuchElementException.class;
         for (int bad : new int[] {Integer.MIN_VALUE, -1, 0, 2, Integer.MAX_VALUE}) {
+            ChordCanal canal = Canals.withBarges(2);
+            canal.removeBarge(0);
             Check.refused("noteOf", due, canal, () -> canal.noteOf(bad));
             Check.refused("draughtOf", due, canal, () -> canal.draughtOf(bad));
             Check.refused("isGoingDown", due, canal, () -> canal.isGoingDown(bad));
@@ -120,6 +120,7 @@ public final class BargesTest {
             Check.refused("gatesLeft", due, canal, () -> canal.gatesLeft(bad));
             Check.refused("hoursUntilLeaving", due, canal, () -> canal.hoursUntilLeaving(bad));
         }
+        ChordCanal canal = Canals.withBarges(2);
         for (int bad : new int[] {Integer.MIN_VALUE, -1, 5, Integer.MAX_VALUE}) {
             Check.refused("gate", IndexOutOfBoundsException.class, canal, () -> canal.hoursUntilDetuned(bad, 0));
         }

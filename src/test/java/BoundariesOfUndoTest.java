@@ -313,11 +313,12 @@ public final class BoundariesOfUndoTest {
         Canals.makeBusy(canal);
         canal.save();
         String due = View.of(canal);
+        String brief = View.brief(canal);
         for (int again = 0; again < 2; again++) {
             for (Check.Use change : CHANGES.subList(0, 8)) {
                 change.of(canal);
             }
-            Check.same("changed", false, due.equals(View.of(canal)));
+            Check.same("changed", false, brief.equals(View.brief(canal)));
             canal.restore();
             Check.same("restored", due, View.of(canal));
         }

@@ -49,8 +49,8 @@ public final class ChangesTest {
     }
 
     private static void promise2AddBargeRefused() {
-        ChordCanal canal = new ChordCanal();
         for (int barges = 0; barges <= 8; barges++) {
+            ChordCanal canal = Canals.withBarges(barges);
             for (int bad : FAR) {
                 Check.refused("note " + bad, IllegalArgumentException.class, canal, () -> canal.addBarge(bad, 1, true));
                 Check.refused("draught " + bad, IllegalArgumentException.class, canal,
@@ -63,6 +63,7 @@ public final class ChangesTest {
                 Check.same("id", barges, canal.addBarge(barges, barges + 1, barges % 2 == 0));
             }
         }
+        ChordCanal canal = Canals.withBarges(8);
         Check.refused("ninth barge", IllegalStateException.class, canal, () -> canal.addBarge(0, 1, true));
         canal.removeBarge(3);
         Check.same("room again", 8, canal.addBarge(0, 1, true));

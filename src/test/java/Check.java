@@ -38,11 +38,11 @@ final class Check {
         }
     }
 
-    /** The call throws exactly this exception, and the canal shows the same state afterwards. */
+    /** The call throws exactly this exception; a brief look, as a canal has 512 calls: refuses() looks at all. */
     static void refused(String what, Class<?> due, ChordCanal canal, Call call) {
-        String before = View.of(canal);
+        String before = View.brief(canal);
         same(what + " throws", due.getSimpleName(), thrownBy(call));
-        same(what + " changes nothing", before, View.of(canal));
+        same(what + " changes nothing", before, View.brief(canal));
     }
 
     /** A canal that was set up so refuses the call, and is then in all like one that was set up so and not called. */

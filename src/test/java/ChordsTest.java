@@ -15,10 +15,10 @@ public final class ChordsTest {
 
     /** Compares with chords that are written note by note, for every sum. */
     private static void promises10To12AllSums() {
-        ChordCanal canal = new ChordCanal();
         String[] kinds = {"M047", "m037", "d036", "a048"};
         int chords = 0;
         for (int notes = 0; notes <= 4095; notes++) {
+            ChordCanal canal = new ChordCanal();
             char kind = '-';
             int root = -1;
             for (String form : kinds) {
@@ -84,20 +84,20 @@ public final class ChordsTest {
     }
 
     private static void promises14To16Opening() {
-        ChordCanal canal = new ChordCanal();
         // Seven semitones apart: the root and the fifth leave one note, the third, for major and for minor.
-        opening(canal, 0, 0, 4, "M7 m9 d a8");
-        opening(canal, 1, 0, 7, "M4 m3 d a");
-        opening(canal, 2, 0, 3, "M8 m7 d6,9 a");
-        opening(canal, 3, 6, 0, "M m d3,9 a");
-        opening(canal, 4, 11, 2, "M7 m6 d5,8 a");
-        opening(canal, 4, 5, 5, "M m d a");
-        opening(canal, 4, 5, 6, "M m d a");
-        opening(canal, 4, 9, 1, "M4 m6 d a5");
+        opening(0, 0, 4, "M7 m9 d a8");
+        opening(1, 0, 7, "M4 m3 d a");
+        opening(2, 0, 3, "M8 m7 d6,9 a");
+        opening(3, 6, 0, "M m d3,9 a");
+        opening(4, 11, 2, "M7 m6 d5,8 a");
+        opening(4, 5, 5, "M m d a");
+        opening(4, 5, 6, "M m d a");
+        opening(4, 9, 1, "M4 m6 d a5");
     }
 
     /** Behind each kind stand the notes that are due. */
-    private static void opening(ChordCanal canal, int gate, int first, int second, String due) {
+    private static void opening(int gate, int first, int second, String due) {
+        ChordCanal canal = new ChordCanal();
         canal.tune(gate, 0, first);
         canal.tune(gate, 1, second);
         StringBuilder got = new StringBuilder();
@@ -138,8 +138,8 @@ public final class ChordsTest {
     }
 
     private static void promises13To16Refused() {
-        ChordCanal canal = new ChordCanal();
         for (int bad : new int[] {Integer.MIN_VALUE, -1, 5, Integer.MAX_VALUE}) {
+            ChordCanal canal = new ChordCanal();
             Class<?> due = IndexOutOfBoundsException.class;
             Check.refused("sound", due, canal, () -> canal.sound(bad, 0));
             Check.refused("openingNotes", due, canal, () -> canal.openingNotes(bad));
@@ -147,6 +147,7 @@ public final class ChordsTest {
             Check.refused("opensTo", due, canal, () -> canal.opensTo(bad, 0));
             Check.refused("opensTo, both", due, canal, () -> canal.opensTo(bad, 12));
         }
+        ChordCanal canal = new ChordCanal();
         for (int bad : new int[] {Integer.MIN_VALUE, -1, 2, Integer.MAX_VALUE}) {
             Check.refused("string", IndexOutOfBoundsException.class, canal, () -> canal.sound(0, bad));
         }

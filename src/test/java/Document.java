@@ -5,7 +5,7 @@ import java.nio.file.Path;
 import java.util.ArrayList;
 import java.util.List;
 
-/** The sentences of ../shared/DOC.md: those of "Terms", and those of each promise. */
+/** What the tests take from ../shared/DOC.md: the sentences of "Terms" and of each promise, and the form of scripts. */
 final class Document {
     static final int PROMISES = 55;
     private static final String TEXT = read();
@@ -29,6 +29,11 @@ final class Document {
         String next = number == PROMISES ? "\n## Not promised" : "\n## Promise " + (number + 1) + ":";
         String section = between("## Promise " + number + ": ", next);
         return sentences(section.substring(section.indexOf('\n')));
+    }
+
+    /** The form of a script: a rule on each line. */
+    static String form() {
+        return between("```text\n", "\n```");
     }
 
     private static String between(String start, String end) {

@@ -78,14 +78,15 @@ public final class GatesAndReachesTest {
     }
 
     private static void refusedGates() {
-        ChordCanal canal = new ChordCanal();
         Class<?> due = IndexOutOfBoundsException.class;
         for (int bad : new int[] {Integer.MIN_VALUE, -1, 5, 6, Integer.MAX_VALUE}) {
+            ChordCanal canal = new ChordCanal();
             Check.refused("note", due, canal, () -> canal.note(bad, 0));
             Check.refused("wear", due, canal, () -> canal.wear(bad, 1));
             Check.refused("demand", due, canal, () -> canal.demand(bad));
             Check.refused("passages", due, canal, () -> canal.passages(bad));
         }
+        ChordCanal canal = new ChordCanal();
         for (int bad : new int[] {Integer.MIN_VALUE, -1, 2, Integer.MAX_VALUE}) {
             Check.refused("note", due, canal, () -> canal.note(1, bad));
             Check.refused("wear", due, canal, () -> canal.wear(1, bad));

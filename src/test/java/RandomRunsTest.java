@@ -13,6 +13,7 @@ import java.util.TreeMap;
 /** Runs of 512 calls with arguments near and beyond the limits, answered by the class and by the model. */
 public final class RandomRunsTest {
     private static final int RUNS = 1500;
+    private static final int CALLS = 512;
     private static final String[] SCRIPTS = {"barge %d %du", "barge %d %dd", "tune %d %d %d", "fix %d %d", "demand %d M",
         "demand %d m", "demand %d a", "demand %d d", "flow %d", "fill %d %d", "leave %d", "hour", "hour %d"};
 
@@ -48,12 +49,12 @@ public final class RandomRunsTest {
     private void run(int run, List<Method> methods) throws ReflectiveOperationException {
         int calls = 0;
         if (run % 2 == 0) {
-            tuneAll();
+            calls += tuneAll();
         }
-        while (calls < 512) {
+        while (calls < CALLS) {
             int kind = random.nextInt(20);
-            if (kind == 0) {
-                calls += script(run);
+            if (kind == 0 && calls <= CALLS - 4) {
+                calls += script(run, CALLS - calls - 3);
             } else if (kind < 7) {
                 call(run, traffic());
                 calls++;
@@ -67,8 +68,8 @@ public final class RandomRunsTest {
         }
     }
 
-    /** Gates that open to the same notes, so that barges get far. */
-    private void tuneAll() {
+    /** Gates that open to the same notes, so that barges get far; answers the number of calls. */
+    private int tuneAll() {
         int shift = random.nextInt(12);
         for (int gate = 0; gate < 5; gate++) {
             for (int string = 0; string < 2; string++) {
@@ -76,6 +77,7 @@ public final class RandomRunsTest {
                 Check.same("tune", model.tune(gate, string, note), canal.tune(gate, string, note));
             }
         }
+        return 10;
     }
 
     private Object[] traffic() {
@@ -145,7 +147,8 @@ public final class RandomRunsTest {
         return count == 0 || random.nextInt(8) == 0 ? random.nextInt(30) : model.bargeIn(reach, random.nextInt(count));
     }
 
-    private int script(int run) throws ReflectiveOperationException {
+    /** Types a script of at most so many characters and runs it; answers the number of calls. */
+    private int script(int run, int most) throws ReflectiveOperationException {
         StringBuilder text = new StringBuilder();
         int commands = random.nextInt(5) + 1;
         for (int index = 0; index < commands; index++) {
@@ -161,6 +164,7 @@ public final class RandomRunsTest {
         if (random.nextInt(5) == 0) {
             text.setLength(random.nextInt(text.length()));
         }
+        text.setLength(Math.min(text.length(), most));
         Method type = ChordCanal.class.getMethod("type", char.class);
         for (char character : text.toString().toCharArray()) {
             compare(run, type, new Object[] {character});

@@ -1,4 +1,3 @@
-import java.util.ArrayList;
 import java.util.List;
 import java.util.NoSuchElementException;
 
@@ -34,22 +33,27 @@ public final class UndoTest {
         Check.done();
     }
 
-    /** Undoes up to eight changes one after another and compares with the states before them. */
+    /** Undoes up to eight changes one after another and compares with a canal that had only those before them. */
     private static void promise53EachChange() {
         for (int changes = 1; changes <= CHANGES.size(); changes++) {
-            ChordCanal canal = new ChordCanal();
-            List<String> before = new ArrayList<>();
-            for (int index = 0; index < changes; index++) {
-                before.add(View.of(canal));
-                CHANGES.get(index).of(canal);
-            }
             int undoable = Math.min(changes, 8);
             for (int undone = 1; undone <= undoable; undone++) {
-                Check.same("undo", undoable - undone, canal.undo());
-                Check.same("state", before.get(changes - undone), View.of(canal));
+                ChordCanal canal = changed(changes);
+                for (int left = undoable - 1; left >= undoable - undone; left--) {
+                    Check.same("undo", left, canal.undo());
+                }
+                Check.same("state", View.of(changed(changes - undone)), View.of(canal));
+                if (undone == undoable) {
+                    Check.refused("nothing to undo", NoSuchElementException.class, canal, canal::undo);
+                }
             }
-            Check.refused("nothing to undo", NoSuchElementException.class, canal, canal::undo);
         }
+    }
+
+    private static ChordCanal changed(int changes) {
+        ChordCanal canal = new ChordCanal();
+        CHANGES.subList(0, changes).forEach(change -> change.of(canal));
+        return canal;
     }
 
     private static void promise53OnlyEight() {

@@ -34,6 +34,13 @@ final class View {
                 + " " + canal.passages(gate) + " opens " + canal.openingNotes(gate);
     }
 
+    /** Ten calls that differ between most states and change nothing. */
+    static String brief(ChordCanal canal) {
+        return canal.time() + " " + canal.inflow() + " " + canal.meanWear() + " " + canal.bargeCount() + " "
+                + canal.totalWater() + " " + canal.inflowTotal() + " " + canal.filledTotal() + " "
+                + canal.lostTotal() + " " + canal.leftTotal() + " " + canal.gateByTraffic(0);
+    }
+
     /** The state and all that undo does not cover; the canal is used up by it. */
     static String ofAll(ChordCanal canal) {
         StringBuilder text = new StringBuilder(of(canal)).append('\n');
